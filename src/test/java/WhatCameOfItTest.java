@@ -156,6 +156,10 @@ public final class WhatCameOfItTest {
         long off1 = 50L * 1000 - 100;
         check.due("nothing wraps", y.bad(0), off0 * off0 / (100 * 999 * 10) + off1 * off1 / (100 * 10));
         check.due("not trusted", y.isTrusted(0), false);
+        DaybreakFlags z = withOne(2);
+        show(z, 1, 0, 1);
+        z.weigh(0, 1, 1);
+        check.due("the one arm is of the least weight", z.bad(0), 999 * 999 / 9990 + 999 * 999 / 10);
     }
 
     private static void badBounds() {
@@ -169,6 +173,7 @@ public final class WhatCameOfItTest {
         trust(30, new int[] {1000}, 0, true);
         trust(2, new int[] {342, 0, 0, 658}, 384, true);
         trust(1, new int[] {206, 0, 0, 794}, 385, false);
+        trust(1, new int[] {180, 819, 1}, 373 + 81, true);
         trust(2, new int[] {250, 0, 50, 700}, 600, false);
     }
 
