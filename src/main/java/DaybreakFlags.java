@@ -60,7 +60,7 @@ public final class DaybreakFlags {
 
     // ---- switches
 
-    public int add(int salt, int variants, boolean isSticky) {
+    public int add(int salt, int variants, boolean isSticky) throws IllegalArgumentException, IllegalStateException {
         if (isOutside(salt, 0, LAST_SALT_OF_SWITCH) || isOutside(variants, 2, MOST_VARIANTS)) {
             throw new IllegalArgumentException("salt or variants out of range");
         }
@@ -73,7 +73,7 @@ public final class DaybreakFlags {
         return number;
     }
 
-    public int weigh(int one, int variant, int weight) {
+    public int weigh(int one, int variant, int weight) throws IndexOutOfBoundsException, IllegalArgumentException {
         Switch flag = known(one);
         checkVariant(flag, variant);
         int left = flag.weightOf(0) + flag.weightOf(variant) - weight;
@@ -85,14 +85,14 @@ public final class DaybreakFlags {
         return left;
     }
 
-    public boolean turn(int one, boolean isOn) {
+    public boolean turn(int one, boolean isOn) throws IndexOutOfBoundsException {
         Switch flag = known(one);
         boolean wasOn = flag.isOn;
         flag.isOn = isOn;
         return wasOn;
     }
 
-    public int ramp(int one, int share, int step) {
+    public int ramp(int one, int share, int step) throws IndexOutOfBoundsException, IllegalArgumentException {
         Switch flag = known(one);
         if (isOutside(share, 0, WHOLE) || isOutside(step, 0, WHOLE)) {
             throw new IllegalArgumentException("share or step out of range");
@@ -102,7 +102,7 @@ public final class DaybreakFlags {
         return before;
     }
 
-    public int place(int one, int layer, int from, int to) {
+    public int place(int one, int layer, int from, int to) throws IndexOutOfBoundsException, IllegalArgumentException, IllegalStateException {
         Switch flag = known(one);
         if (layer != NONE) {
             checkRange(layer, from, to);
@@ -117,7 +117,7 @@ public final class DaybreakFlags {
         return before;
     }
 
-    public int need(int one, int other, int variant) {
+    public int need(int one, int other, int variant) throws IndexOutOfBoundsException, IllegalArgumentException {
         Switch flag = known(one);
         if (other != NONE) {
             checkVariant(known(other), variant);
@@ -131,7 +131,7 @@ public final class DaybreakFlags {
         return before;
     }
 
-    public int rule(int one, int mark, int how, int n, int variant) {
+    public int rule(int one, int mark, int how, int n, int variant) throws IndexOutOfBoundsException, IllegalArgumentException, IllegalStateException {
         Switch flag = known(one);
         if (variant != NONE) {
             checkVariant(flag, variant);
@@ -146,7 +146,7 @@ public final class DaybreakFlags {
         return flag.ruleCount;
     }
 
-    public int unrule(int one, int rule) {
+    public int unrule(int one, int rule) throws IndexOutOfBoundsException {
         Switch flag = known(one);
         if (isOutside(rule, 0, flag.ruleCount - 1)) {
             throw new IndexOutOfBoundsException("no such rule");
@@ -155,7 +155,7 @@ public final class DaybreakFlags {
         return flag.ruleCount;
     }
 
-    public int hold(int held) {
+    public int hold(int held) throws IllegalArgumentException {
         if (isOutside(held, 0, WHOLE)) {
             throw new IllegalArgumentException("held out of range");
         }
@@ -164,7 +164,7 @@ public final class DaybreakFlags {
         return before;
     }
 
-    public int goOn(int ticks) {
+    public int goOn(int ticks) throws IllegalArgumentException {
         if (isOutside(ticks, 1, MOST_TICKS_AT_ONCE)) {
             throw new IllegalArgumentException("ticks out of range");
         }
@@ -176,17 +176,17 @@ public final class DaybreakFlags {
         return switchCount;
     }
 
-    public int weight(int one, int variant) {
+    public int weight(int one, int variant) throws IndexOutOfBoundsException {
         Switch flag = known(one);
         checkVariant(flag, variant);
         return flag.weightOf(variant);
     }
 
-    public int share(int one) {
+    public int share(int one) throws IndexOutOfBoundsException {
         return known(one).farAt(clock);
     }
 
-    public int left(int layer) {
+    public int left(int layer) throws IndexOutOfBoundsException {
         if (isOutside(layer, 0, LAYERS - 1)) {
             throw new IndexOutOfBoundsException("no such layer");
         }
@@ -201,34 +201,34 @@ public final class DaybreakFlags {
 
     // ---- who gets what
 
-    public int bucket(int salt, int user) {
+    public int bucket(int salt, int user) throws IllegalArgumentException {
         if (isOutside(salt, 0, LAST_SALT) || isOutside(user, 0, LAST_USER)) {
             throw new IllegalArgumentException("salt or user out of range");
         }
         return bucketOf(salt, user);
     }
 
-    public int gets(int one, int user, int first, int second) {
+    public int gets(int one, int user, int first, int second) throws IndexOutOfBoundsException, IllegalArgumentException {
         Switch flag = known(one);
         checkAsker(user, first, second);
         asker.become(user, first, second);
         return variantOf(flag);
     }
 
-    public int why(int one, int user, int first, int second) {
+    public int why(int one, int user, int first, int second) throws IndexOutOfBoundsException, IllegalArgumentException {
         Switch flag = known(one);
         checkAsker(user, first, second);
         asker.become(user, first, second);
         return reasonOf(flag);
     }
 
-    public int holds(int one, int user, int first, int second) {
+    public int holds(int one, int user, int first, int second) throws IndexOutOfBoundsException, IllegalArgumentException {
         Switch flag = known(one);
         checkAsker(user, first, second);
         return flag.firstRuleFor(first, second);
     }
 
-    public int ask(int one, int user, int first, int second) {
+    public int ask(int one, int user, int first, int second) throws IndexOutOfBoundsException, IllegalArgumentException {
         Switch flag = known(one);
         checkAsker(user, first, second);
         asker.become(user, first, second);
@@ -241,7 +241,7 @@ public final class DaybreakFlags {
         return shown;
     }
 
-    public int act(int user, int worth) {
+    public int act(int user, int worth) throws IllegalArgumentException {
         if (isOutside(user, 0, LAST_USER) || isOutside(worth, 0, MOST_WORTH)) {
             throw new IllegalArgumentException("user or worth out of range");
         }
@@ -254,7 +254,7 @@ public final class DaybreakFlags {
         return found;
     }
 
-    public int arm(int one, int user) {
+    public int arm(int one, int user) throws IndexOutOfBoundsException, IllegalArgumentException {
         Switch flag = known(one);
         if (isOutside(user, 0, LAST_USER)) {
             throw new IllegalArgumentException("user out of range");
@@ -269,7 +269,7 @@ public final class DaybreakFlags {
 
     // ---- what came of it
 
-    public int told(int one, int variant, int what) {
+    public int told(int one, int variant, int what) throws IndexOutOfBoundsException, IllegalArgumentException {
         Switch flag = known(one);
         checkVariant(flag, variant);
         switch (what) {
@@ -286,39 +286,39 @@ public final class DaybreakFlags {
         }
     }
 
-    public double mean(int one, int variant) {
+    public double mean(int one, int variant) throws IndexOutOfBoundsException {
         Switch flag = known(one);
         checkVariant(flag, variant);
         return flag.tally.meanOf(variant);
     }
 
-    public double lift(int one, int variant) {
+    public double lift(int one, int variant) throws IndexOutOfBoundsException {
         Switch flag = known(one);
         checkVariant(flag, variant);
         return flag.tally.liftOf(variant);
     }
 
-    public double sure(int one, int variant) {
+    public double sure(int one, int variant) throws IndexOutOfBoundsException {
         Switch flag = known(one);
         checkVariant(flag, variant);
         return flag.tally.surenessOf(variant);
     }
 
-    public int bad(int one) {
+    public int bad(int one) throws IndexOutOfBoundsException {
         return known(one).badness();
     }
 
-    public boolean isTrusted(int one) {
+    public boolean isTrusted(int one) throws IndexOutOfBoundsException {
         return known(one).canBeTrusted();
     }
 
-    public int best(int one) {
+    public int best(int one) throws IndexOutOfBoundsException {
         return known(one).tally.bestVariant();
     }
 
     // ---- what would be (nothing is changed): USERS 0 to many - 1, each with the MARKS USER % 10 and USER / 10 % 10
 
-    public int reach(int one, int variant, int many) {
+    public int reach(int one, int variant, int many) throws IndexOutOfBoundsException, IllegalArgumentException {
         Switch flag = known(one);
         checkVariant(flag, variant);
         checkMany(many);
@@ -332,7 +332,7 @@ public final class DaybreakFlags {
         return reached;
     }
 
-    public int both(int one, int other, int many) {
+    public int both(int one, int other, int many) throws IndexOutOfBoundsException, IllegalArgumentException {
         Switch flag = known(one);
         Switch second = known(other);
         checkMany(many);
@@ -346,7 +346,7 @@ public final class DaybreakFlags {
         return split;
     }
 
-    public int wouldChange(int one, int share, int many) {
+    public int wouldChange(int one, int share, int many) throws IndexOutOfBoundsException, IllegalArgumentException {
         Switch flag = known(one);
         if (isOutside(share, 0, WHOLE)) {
             throw new IllegalArgumentException("share out of range");
@@ -364,7 +364,7 @@ public final class DaybreakFlags {
         return changed;
     }
 
-    public int wouldTurn(int one, int many) {
+    public int wouldTurn(int one, int many) throws IndexOutOfBoundsException, IllegalArgumentException {
         known(one);
         checkMany(many);
         int changed = 0;
@@ -376,7 +376,7 @@ public final class DaybreakFlags {
         return changed;
     }
 
-    public int shareIn(int one, int ticks) {
+    public int shareIn(int one, int ticks) throws IndexOutOfBoundsException, IllegalArgumentException {
         Switch flag = known(one);
         if (isOutside(ticks, 0, MOST_TICKS_AHEAD)) {
             throw new IllegalArgumentException("ticks out of range");

@@ -7,18 +7,44 @@ import java.util.List;
 import java.util.Set;
 import java.util.TreeSet;
 
-/** The public face: the methods of the document, as it writes them, and nothing beside them. */
+/** The public face: the methods of the document, with the exceptions that it declares, and nothing beside them. */
 public final class FaceTest {
     private static final String[] DUE = {
-        "int add(int, int, boolean)", "int weigh(int, int, int)", "boolean turn(int, boolean)", "int ramp(int, int, int)",
-        "int place(int, int, int, int)", "int need(int, int, int)", "int rule(int, int, int, int, int)",
-        "int unrule(int, int)", "int hold(int)", "int goOn(int)", "int switches()", "int weight(int, int)",
-        "int share(int)", "int left(int)", "int bucket(int, int)", "int gets(int, int, int, int)",
-        "int why(int, int, int, int)", "int holds(int, int, int, int)", "int ask(int, int, int, int)",
-        "int act(int, int)", "int arm(int, int)", "int arms()", "int told(int, int, int)", "double mean(int, int)",
-        "double lift(int, int)", "double sure(int, int)", "int bad(int)", "boolean isTrusted(int)", "int best(int)",
-        "int reach(int, int, int)", "int both(int, int, int)", "int wouldChange(int, int, int)",
-        "int wouldTurn(int, int)", "int shareIn(int, int)", "long digest()"};
+        "int add(int, int, boolean) throws IllegalArgumentException, IllegalStateException",
+        "int weigh(int, int, int) throws IndexOutOfBoundsException, IllegalArgumentException",
+        "boolean turn(int, boolean) throws IndexOutOfBoundsException",
+        "int ramp(int, int, int) throws IndexOutOfBoundsException, IllegalArgumentException",
+        "int place(int, int, int, int) throws IndexOutOfBoundsException, IllegalArgumentException, IllegalStateException",
+        "int need(int, int, int) throws IndexOutOfBoundsException, IllegalArgumentException",
+        "int rule(int, int, int, int, int) throws IndexOutOfBoundsException, IllegalArgumentException, IllegalStateException",
+        "int unrule(int, int) throws IndexOutOfBoundsException",
+        "int hold(int) throws IllegalArgumentException",
+        "int goOn(int) throws IllegalArgumentException",
+        "int switches()",
+        "int weight(int, int) throws IndexOutOfBoundsException",
+        "int share(int) throws IndexOutOfBoundsException",
+        "int left(int) throws IndexOutOfBoundsException",
+        "int bucket(int, int) throws IllegalArgumentException",
+        "int gets(int, int, int, int) throws IndexOutOfBoundsException, IllegalArgumentException",
+        "int why(int, int, int, int) throws IndexOutOfBoundsException, IllegalArgumentException",
+        "int holds(int, int, int, int) throws IndexOutOfBoundsException, IllegalArgumentException",
+        "int ask(int, int, int, int) throws IndexOutOfBoundsException, IllegalArgumentException",
+        "int act(int, int) throws IllegalArgumentException",
+        "int arm(int, int) throws IndexOutOfBoundsException, IllegalArgumentException",
+        "int arms()",
+        "int told(int, int, int) throws IndexOutOfBoundsException, IllegalArgumentException",
+        "double mean(int, int) throws IndexOutOfBoundsException",
+        "double lift(int, int) throws IndexOutOfBoundsException",
+        "double sure(int, int) throws IndexOutOfBoundsException",
+        "int bad(int) throws IndexOutOfBoundsException",
+        "boolean isTrusted(int) throws IndexOutOfBoundsException",
+        "int best(int) throws IndexOutOfBoundsException",
+        "int reach(int, int, int) throws IndexOutOfBoundsException, IllegalArgumentException",
+        "int both(int, int, int) throws IndexOutOfBoundsException, IllegalArgumentException",
+        "int wouldChange(int, int, int) throws IndexOutOfBoundsException, IllegalArgumentException",
+        "int wouldTurn(int, int) throws IndexOutOfBoundsException, IllegalArgumentException",
+        "int shareIn(int, int) throws IndexOutOfBoundsException, IllegalArgumentException",
+        "long digest()"};
 
     public static void main(String[] args) {
         Check check = new Check();
@@ -39,7 +65,12 @@ public final class FaceTest {
                 check.due(each + " is public alone", each.getModifiers() == Modifier.PUBLIC, true);
             }
         }
-        check.due("the face is " + found + ", due is " + due + ": same", found.equals(due), true);
+        for (String each : due) {
+            check.due("the face has: " + each, found.contains(each), true);
+        }
+        for (String each : found) {
+            check.due("the document has: " + each, due.contains(each), true);
+        }
         for (Field each : face.getDeclaredFields()) {
             check.due(each + " is private", Modifier.isPrivate(each.getModifiers()), true);
             check.due(each + " is no static state",
@@ -48,6 +79,8 @@ public final class FaceTest {
         Constructor<?>[] made = face.getDeclaredConstructors();
         check.due("one constructor, public, without arguments",
             made.length == 1 && made[0].getModifiers() == Modifier.PUBLIC && made[0].getParameterCount() == 0, true);
+        check.due("the constructor declares no exception",
+            made.length == 1 && made[0].getExceptionTypes().length == 0, true);
         inside(check, face, names);
         check.end();
     }
@@ -62,11 +95,21 @@ public final class FaceTest {
         }
     }
 
+    /** The order of the exceptions is that of their declaration. */
     private static String written(Method method) {
-        List<String> parameters = new ArrayList<>();
-        for (Class<?> each : method.getParameterTypes()) {
-            parameters.add(each.getSimpleName());
+        String declared = method.getReturnType().getSimpleName() + " " + method.getName()
+            + "(" + joined(method.getParameterTypes()) + ")";
+        String thrown = joined(method.getExceptionTypes());
+        return thrown.isEmpty() ? declared : declared + " throws " + thrown;
+    }
+
+    private static String joined(Class<?>[] types) {
+        List<String> names = new ArrayList<>();
+        for (Class<?> each : types) {
+            // Of another package a short name may be that of another class.
+            boolean isKnown = each.isPrimitive() || each.getPackageName().equals("java.lang");
+            names.add(isKnown ? each.getSimpleName() : each.getName());
         }
-        return method.getReturnType().getSimpleName() + " " + method.getName() + "(" + String.join(", ", parameters) + ")";
+        return String.join(", ", names);
     }
 }
