@@ -6,9 +6,23 @@ final class Check {
 
     private int wrong;
     private int looked;
+    private String about = "";
 
     interface Call {
         void make();
+    }
+
+    /** What the answers looked at from now on are about; printed ahead of each wrong one. */
+    void about(String what) {
+        about = what + ": ";
+    }
+
+    int wrong() {
+        return wrong;
+    }
+
+    int looked() {
+        return looked;
     }
 
     void due(String call, long got, long want) {
@@ -25,6 +39,13 @@ final class Check {
     void dueDouble(String call, double got, double want) {
         looked++;
         if (got != want) {
+            tell(call + " answered " + got + ", due is " + want);
+        }
+    }
+
+    void dueText(String call, String got, String want) {
+        looked++;
+        if (!got.equals(want)) {
             tell(call + " answered " + got + ", due is " + want);
         }
     }
@@ -52,7 +73,7 @@ final class Check {
     private void tell(String what) {
         wrong++;
         if (wrong <= 40) {
-            System.out.println(what);
+            System.out.println(about + what);
         }
     }
 }

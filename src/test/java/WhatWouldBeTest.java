@@ -54,9 +54,9 @@ public final class WhatWouldBeTest {
     }
 
     private static void reach() {
-        DaybreakFlags x = busy();
         for (int many : new int[] {1, 2, 99, 100, 101, 200}) {
             for (int one = 0; one < 4; one++) {
+                DaybreakFlags x = busy();
                 int[] want = new int[4];
                 for (int user = 0; user < many; user++) {
                     want[x.gets(one, user, first(user), second(user))]++;
@@ -82,9 +82,9 @@ public final class WhatWouldBeTest {
     }
 
     private static void both() {
-        DaybreakFlags x = busy();
         for (int one = 0; one < 4; one++) {
             for (int other = 0; other < 4; other++) {
+                DaybreakFlags x = busy();
                 int want = 0;
                 for (int user = 0; user < 150; user++) {
                     boolean isOne = x.why(one, user, first(user), second(user)) == 8;
@@ -116,7 +116,7 @@ public final class WhatWouldBeTest {
         for (int share : new int[] {0, 1, 250, 399, 400, 401, 700, 999, 1000}) {
             int want = 0;
             for (int user = 0; user < 200; user++) {
-                int bucket = x.bucket(61, user);
+                int bucket = Users.bucket(61, user);
                 want += bucket < 400 != bucket < share ? 1 : 0;
             }
             check.due("wouldChange(" + share + ")", x.wouldChange(0, share, 200), want);
@@ -140,13 +140,13 @@ public final class WhatWouldBeTest {
         x.add(60, 2, false);
         x.add(90, 2, false);
         x.weigh(0, 1, 400);
-        check.due("on, it tells some 1", x.wouldTurn(0, 200), countIn(x, 60, 600, 1000));
+        check.due("on, it tells some 1", x.wouldTurn(0, 200), countIn(60, 600, 1000));
         x.turn(0, true);
-        check.due("off, it tells all 0", x.wouldTurn(0, 200), countIn(x, 60, 600, 1000));
+        check.due("off, it tells all 0", x.wouldTurn(0, 200), countIn(60, 600, 1000));
         x.need(1, 0, 0);
         x.weigh(1, 1, 1000);
         x.turn(1, true);
-        check.due("or the other one changes", x.wouldTurn(0, 200), countIn(x, 60, 600, 1000));
+        check.due("or the other one changes", x.wouldTurn(0, 200), countIn(60, 600, 1000));
         x.weigh(0, 1, 0);
         x.turn(0, false);
         x.need(1, -1, 0);
@@ -183,10 +183,10 @@ public final class WhatWouldBeTest {
         check.due("the last one", x.wouldTurn(7, 30), 30);
     }
 
-    private static int countIn(DaybreakFlags x, int salt, int from, int to) {
+    private static int countIn(int salt, int from, int to) {
         int many = 0;
         for (int user = 0; user < 200; user++) {
-            int bucket = x.bucket(salt, user);
+            int bucket = Users.bucket(salt, user);
             many += bucket >= from && bucket < to ? 1 : 0;
         }
         return many;

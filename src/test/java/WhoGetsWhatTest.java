@@ -24,17 +24,6 @@ public final class WhoGetsWhatTest {
         check.end();
     }
 
-    private static int userWithBucket(int salt, int from, int to) {
-        DaybreakFlags any = new DaybreakFlags();
-        for (int user = 0; user < 10000; user++) {
-            int bucket = any.bucket(salt, user);
-            if (bucket >= from && bucket < to) {
-                return user;
-            }
-        }
-        throw new AssertionError("no user with such a bucket");
-    }
-
     private static void bucket() {
         DaybreakFlags x = new DaybreakFlags();
         check.due("bucket(0, 0)", x.bucket(0, 0), 289);
@@ -58,15 +47,15 @@ public final class WhoGetsWhatTest {
         x.weigh(0, 1, 300);
         x.weigh(0, 2, 200);
         x.turn(0, true);
-        for (int user = 0; user < 300; user++) {
-            int bucket = x.bucket(77, user);
+        for (int user = 0; user < 240; user++) {
+            int bucket = Users.bucket(77, user);
             int want = bucket < 500 ? 0 : bucket < 800 ? 1 : 2;
             check.due("split of " + user, x.gets(0, user, 1, 2), want);
             check.due("why of " + user, x.why(0, user, 1, 2), 8);
         }
         int[][] edges = {{499, 0}, {500, 1}, {799, 1}, {800, 2}, {999, 2}, {0, 0}};
         for (int[] each : edges) {
-            int user = userWithBucket(77, each[0], each[0] + 1);
+            int user = Users.at(77, each[0]);
             check.due("split at " + each[0], x.gets(0, user, 0, 0), each[1]);
         }
     }
@@ -76,12 +65,12 @@ public final class WhoGetsWhatTest {
         x.add(31, 4, false);
         x.weigh(0, 2, 1000);
         x.turn(0, true);
-        check.due("all in 2, at 0", x.gets(0, userWithBucket(31, 0, 1), 0, 0), 2);
-        check.due("all in 2, at 999", x.gets(0, userWithBucket(31, 999, 1000), 0, 0), 2);
+        check.due("all in 2, at 0", x.gets(0, Users.at(31, 0), 0, 0), 2);
+        check.due("all in 2, at 999", x.gets(0, Users.at(31, 999), 0, 0), 2);
         x.weigh(0, 2, 400);
         x.weigh(0, 3, 600);
-        check.due("at 399", x.gets(0, userWithBucket(31, 399, 400), 0, 0), 2);
-        check.due("at 400", x.gets(0, userWithBucket(31, 400, 401), 0, 0), 3);
+        check.due("at 399", x.gets(0, Users.at(31, 399), 0, 0), 2);
+        check.due("at 400", x.gets(0, Users.at(31, 400), 0, 0), 3);
     }
 
     /** All of the reasons apply to one user at first; then they are taken away, one by one. */
@@ -133,10 +122,10 @@ public final class WhoGetsWhatTest {
         x.weigh(0, 1, 1000);
         x.turn(0, true);
         x.ramp(0, 100, 10);
-        int at99 = userWithBucket(61, 99, 100);
-        int at100 = userWithBucket(61, 100, 101);
-        int at109 = userWithBucket(61, 109, 110);
-        int at110 = userWithBucket(61, 110, 111);
+        int at99 = Users.at(61, 99);
+        int at100 = Users.at(61, 100);
+        int at109 = Users.at(61, 109);
+        int at110 = Users.at(61, 110);
         check.due("below the share", x.why(0, at99, 0, 0), 8);
         check.due("at the share", x.why(0, at100, 0, 0), 6);
         check.due("gets without the ramp", x.gets(0, at100, 0, 0), 0);
@@ -145,9 +134,9 @@ public final class WhoGetsWhatTest {
         check.due("in after a tick", x.why(0, at109, 0, 0), 8);
         check.due("not yet", x.why(0, at110, 0, 0), 6);
         x.ramp(0, 999, 0);
-        check.due("the last one", x.why(0, userWithBucket(61, 999, 1000), 0, 0), 6);
+        check.due("the last one", x.why(0, Users.at(61, 999), 0, 0), 6);
         x.ramp(0, 0, 0);
-        check.due("the first one", x.why(0, userWithBucket(61, 0, 1), 0, 0), 6);
+        check.due("the first one", x.why(0, Users.at(61, 0), 0, 0), 6);
     }
 
     private static void layer() {
@@ -158,14 +147,14 @@ public final class WhoGetsWhatTest {
             x.turn(0, true);
             x.place(0, layer, 200, 700);
             int salt = 500 + layer;
-            check.due("ahead of the range", x.why(0, userWithBucket(salt, 199, 200), 0, 0), 5);
-            check.due("gets ahead of it", x.gets(0, userWithBucket(salt, 199, 200), 0, 0), 0);
-            check.due("from", x.why(0, userWithBucket(salt, 200, 201), 0, 0), 8);
-            check.due("gets in it", x.gets(0, userWithBucket(salt, 200, 201), 0, 0), 1);
-            check.due("ahead of to", x.why(0, userWithBucket(salt, 699, 700), 0, 0), 8);
-            check.due("to", x.why(0, userWithBucket(salt, 700, 701), 0, 0), 5);
+            check.due("ahead of the range", x.why(0, Users.at(salt, 199), 0, 0), 5);
+            check.due("gets ahead of it", x.gets(0, Users.at(salt, 199), 0, 0), 0);
+            check.due("from", x.why(0, Users.at(salt, 200), 0, 0), 8);
+            check.due("gets in it", x.gets(0, Users.at(salt, 200), 0, 0), 1);
+            check.due("ahead of to", x.why(0, Users.at(salt, 699), 0, 0), 8);
+            check.due("to", x.why(0, Users.at(salt, 700), 0, 0), 5);
             x.place(0, -1, 0, 0);
-            check.due("in no layer", x.why(0, userWithBucket(salt, 700, 701), 0, 0), 8);
+            check.due("in no layer", x.why(0, Users.at(salt, 700), 0, 0), 8);
         }
     }
 
@@ -175,14 +164,14 @@ public final class WhoGetsWhatTest {
         x.weigh(0, 1, 1000);
         x.turn(0, true);
         x.hold(50);
-        int at49 = userWithBucket(999, 49, 50);
+        int at49 = Users.at(999, 49);
         check.due("held", x.why(0, at49, 0, 0), 4);
         check.due("gets held", x.gets(0, at49, 0, 0), 0);
-        check.due("not held", x.why(0, userWithBucket(999, 50, 51), 0, 0), 8);
+        check.due("not held", x.why(0, Users.at(999, 50), 0, 0), 8);
         x.hold(49);
         check.due("no more held", x.gets(0, at49, 0, 0), 1);
         x.hold(0);
-        check.due("nobody held", x.why(0, userWithBucket(999, 0, 1), 0, 0), 8);
+        check.due("nobody held", x.why(0, Users.at(999, 0), 0, 0), 8);
     }
 
     private static void needs() {
@@ -198,8 +187,8 @@ public final class WhoGetsWhatTest {
         check.due("off tells 0", x.why(1, 3, 0, 0), 8);
         x.need(1, 0, 1);
         x.turn(0, true);
-        int low = userWithBucket(60, 0, 500);
-        int high = userWithBucket(60, 500, 1000);
+        int low = Users.in(60, 0, 500);
+        int high = Users.in(60, 500, 1000);
         check.due("another", x.why(1, low, 0, 0), 1);
         check.due("gets with another", x.gets(1, low, 0, 0), 0);
         check.due("that", x.why(1, high, 0, 0), 8);
